@@ -164,7 +164,11 @@ public final class DaysTest {
     Checks.due("day", x.now(0), 99960);
     Checks.due("above the last day", x.go(40), Checks.STATE);
     Checks.due("beyond comes first", x.go(61), Checks.BEYOND);
-    Checks.due("to the last day", x.go(38), 0);
+    x.image();
+    Checks.due("to the last day", x.go(39), 0);
+    Checks.due("day", x.now(0), 99999);
+    x.undo();
+    Checks.due("nearly", x.go(38), 0);
     Checks.due("hawk above it", x.hawk(2), Checks.STATE);
     Checks.due("hawk beyond", x.hawk(21), Checks.BEYOND);
     Checks.due("no draw", x.count(6), 1);
@@ -257,13 +261,16 @@ public final class DaysTest {
     x.resident(Checks.WIDOW, 0);
     x.change(0, 2, 1);
     x.change(0, 4, 3);
+    Checks.due("already", x.stands(0, 0), 0);
     Checks.due("already", x.stands(0, 3), 0);
     Checks.due("behind a day", x.stands(0, 4), 1);
     Checks.due("behind seven", x.stands(0, 5), 7);
     // Days 0, 6, .. 198 are 34.
     Checks.due("behind 199", x.stands(0, 37), 199);
     Checks.due("not in 200", x.stands(0, 38), Checks.NONE);
-    x.go(5);
+    x.go(4);
+    Checks.due("behind 201 is too late", x.stands(0, 38), Checks.NONE);
+    x.go(1);
     Checks.due("behind 194", x.stands(0, 37), 194);
     Checks.due("the 200th counts", x.stands(0, 38), 200);
     Checks.due("not in 200", x.stands(0, 39), Checks.NONE);
@@ -272,7 +279,6 @@ public final class DaysTest {
     for (int[] b : beyond) {
       Checks.due("stands " + b[0] + " " + b[1], x.stands(b[0], b[1]), Checks.BEYOND);
     }
-    Checks.due("findings", x.status(3), 2);
   }
 
   private static void wants() {
@@ -293,7 +299,6 @@ public final class DaysTest {
     for (int[] b : beyond) {
       Checks.due("wants " + b[0] + " " + b[1], x.wants(b[0], b[1]), Checks.BEYOND);
     }
-    Checks.due("findings", x.status(3), 2);
   }
 
   private static void despair() {
@@ -312,6 +317,5 @@ public final class DaysTest {
     for (int[] b : beyond) {
       Checks.due("despair " + b[0] + " " + b[1], x.despair(b[0], b[1]), Checks.BEYOND);
     }
-    Checks.due("findings", x.status(3), 1);
   }
 }

@@ -40,6 +40,10 @@ public final class ImagesTest {
     x.image();
     int[] before = tellAll(x);
     x.resident(Checks.LAD, 7);
+    int[] other = {0, 9, 4095, 7, 12, 1};
+    for (int what = 1; what < 6; what++) {
+      x.change(2, what, other[what]);
+    }
     for (int what = 0; what < 6; what++) {
       x.change(0, what, what == 0 ? 2 : 1);
       x.change(1, what, what == 5 ? 0 : 2);
@@ -57,8 +61,10 @@ public final class ImagesTest {
       Checks.due("what " + i, behind[i], before[i]);
     }
     Checks.due("a new one is as at first", x.resident(Checks.BOY, 1), 2);
-    Checks.due("its hope", x.of(2, 3), 50);
-    Checks.due("its wants", x.of(2, 2), 0);
+    int[] fresh = {2, 1, 0, 50, 0, 0};
+    for (int what = 0; what < 6; what++) {
+      Checks.due("of the new one " + what, x.of(2, what), fresh[what]);
+    }
   }
 
   private static int[] tellAll(EmptyBarrow x) {

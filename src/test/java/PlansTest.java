@@ -76,6 +76,7 @@ public final class PlansTest {
     Checks.due("none", x.loudFor(7, 7), Checks.NONE);
     Checks.due("no sale", x.loudFor(1, 6), Checks.NONE);
     Checks.due("nothing needed", x.loudFor(0, 7), 0);
+    Checks.due("no day", x.loudFor(0, 0), 0);
     x.change(0, 1, 9);
     Checks.due("loud 9", x.loudFor(6, 7), 9);
     x.change(0, 1, 10);
@@ -278,6 +279,9 @@ public final class PlansTest {
     x.change(0, 2, 1023 - 512);
     Checks.due("9 of 12", x.odds(0, 1, 0), 3);
     Checks.due("9 of 12", x.odds(0, 1, 1), 4);
+    x.change(0, 2, 1023);
+    Checks.due("10 of 12", x.odds(0, 2, 0), 25);
+    Checks.due("10 of 12", x.odds(0, 2, 1), 36);
     int[][] beyond = {{1, 0, 0}, {-1, 0, 0}, {0, 18, 0}, {0, -1, 0}, {0, 0, 2}, {0, 0, -1}};
     for (int[] b : beyond) {
       String call = "odds " + b[0] + " " + b[1] + " " + b[2];
