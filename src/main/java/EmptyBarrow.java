@@ -86,6 +86,8 @@ public final class EmptyBarrow {
   private final Street trial = new Street();
   private final Street kept = new Street();
   private boolean isKept = false;
+  /** What trials came to, by what was tried; doors are the most that can be. */
+  private final int[] outcomes = new int[DOORS];
   private final Tape tape = new Tape();
   private final Sheet[] sheets = {new Sheet(), new Sheet(), new Sheet(), new Sheet()};
   private final int[] findings = new int[FINDINGS];
@@ -256,36 +258,26 @@ public final class EmptyBarrow {
     if (!isPlace(i) || !isWithin(n, 0, TOP_PLAN)) {
       return finding(BEYOND);
     }
-    int best = 0;
-    int most = -1;
     for (int good = 0; good < GOODS; good++) {
       trial.become(street);
       trial.list[i] = good;
       trial.passDays(n);
-      if (trial.gold > most) {
-        most = trial.gold;
-        best = good;
-      }
+      outcomes[good] = trial.gold;
     }
-    return best;
+    return firstGreatestOutcome(GOODS);
   }
 
   public int startFor(int n) {
     if (!isWithin(n, 0, TOP_PLAN)) {
       return finding(BEYOND);
     }
-    int best = 0;
-    int most = -1;
     for (int door = 0; door < DOORS; door++) {
       trial.become(street);
       trial.door = door;
       trial.passDays(n);
-      if (trial.gold > most) {
-        most = trial.gold;
-        best = door;
-      }
+      outcomes[door] = trial.gold;
     }
-    return best;
+    return firstGreatestOutcome(DOORS);
   }
 
   public int loudFor(int v, int n) {
@@ -307,19 +299,13 @@ public final class EmptyBarrow {
     if (!street.has(resident) || !isWithin(n, 0, TOP_PLAN)) {
       return finding(BEYOND);
     }
-    int best = 0;
-    int most = -1;
     for (int kind = 0; kind < KINDS; kind++) {
       trial.become(street);
       trial.residents[resident].kind = kind;
       trial.passDays(n);
-      int stood = trial.residents[resident].stood;
-      if (stood > most) {
-        most = stood;
-        best = kind;
-      }
+      outcomes[kind] = trial.residents[resident].stood;
     }
-    return best;
+    return firstGreatestOutcome(KINDS);
   }
 
   public int empty(int n) {
@@ -673,6 +659,16 @@ public final class EmptyBarrow {
       return one.hope <= v;
     }
     return one.isFor(v);
+  }
+
+  private int firstGreatestOutcome(int tried) {
+    int best = 0;
+    for (int i = 1; i < tried && i < DOORS; i++) {
+      if (outcomes[i] > outcomes[best]) {
+        best = i;
+      }
+    }
+    return best;
   }
 
   private boolean earnsNothingWithout(int group, int n) {

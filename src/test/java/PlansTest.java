@@ -44,6 +44,9 @@ public final class PlansTest {
       Checks.due("cryFor " + b[0] + " " + b[1], x.cryFor(b[0], b[1]), Checks.BEYOND);
     }
     Checks.due("60 days", x.cryFor(5, 60), 8);
+    x.change(0, 2, 1 << 11);
+    x.change(2, 2, 1 << 11);
+    Checks.due("the last good", x.cryFor(4, 7), 11);
   }
 
   private static void startFor() {
@@ -65,6 +68,8 @@ public final class PlansTest {
     Checks.due("behind 15 comes 0", x.startFor(7), 3);
     x.change(0, 2, 2);
     Checks.due("door 13", x.startFor(7), 13);
+    x.change(0, 1, 3);
+    Checks.due("door 15", x.startFor(7), 15);
   }
 
   private static void loudFor() {
@@ -230,8 +235,8 @@ public final class PlansTest {
     EmptyBarrow y = new EmptyBarrow();
     y.resident(Checks.LAD, 9);
     y.change(0, 2, 4095);
-    // A lad hears all; it comes each day while it hopes, thrice in the first week less.
     y.seed(-5);
+    // The same twenty days, with the draws made here.
     EmptyBarrow z = new EmptyBarrow();
     z.resident(Checks.LAD, 9);
     z.change(0, 2, 4095);
