@@ -1088,7 +1088,7 @@ public final class EmptyBarrow {
 
     boolean hasRow(int from, int n) {
       // No sum of the two: it could run over.
-      return from >= 0 && n >= 0 && from <= size && n <= size - from;
+      return from >= 0 && n >= 0 && n <= size - from;
     }
   }
 
