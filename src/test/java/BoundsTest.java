@@ -42,9 +42,13 @@ public final class BoundsTest {
       }
       allowed(street, name, a, i, bounds[i][0]);
       allowed(street, name, a, i, bounds[i][1]);
-      int[] over = {bounds[i][0] - 1, bounds[i][1] + 1, Integer.MIN_VALUE, Integer.MAX_VALUE};
-      for (int v : over) {
-        refused(street, name, a, i, v);
+      int wrong = Checks.wrongSoFar();
+      refused(street, name, a, i, bounds[i][0] - 1);
+      refused(street, name, a, i, bounds[i][1] + 1);
+      // A call that takes one day too many might take all of these.
+      if (Checks.wrongSoFar() == wrong) {
+        refused(street, name, a, i, Integer.MIN_VALUE);
+        refused(street, name, a, i, Integer.MAX_VALUE);
       }
     }
   }

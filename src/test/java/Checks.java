@@ -16,10 +16,35 @@ final class Checks {
   static final int DEAF = 5;
   static final int LAD = 6;
 
+  private static final int SECONDS = 300;
+
   private static int asked = 0;
   private static int wrong = 0;
 
+  static {
+    watch();
+  }
+
   private Checks() {
+  }
+
+  /** A call that never ends fails the test, too, rather than keep the script waiting. */
+  private static void watch() {
+    Thread watch = new Thread(() -> {
+      try {
+        Thread.sleep(1000L * SECONDS);
+      } catch (InterruptedException e) {
+        return;
+      }
+      System.out.println("not at its end in " + SECONDS + " seconds, behind " + asked + " answers");
+      Runtime.getRuntime().halt(1);
+    });
+    watch.setDaemon(true);
+    watch.start();
+  }
+
+  static int wrongSoFar() {
+    return wrong;
   }
 
   static void due(String call, long got, long want) {
