@@ -1176,7 +1176,6 @@ public final class EmptyBarrow {
     }
 
     boolean readItems() {
-      items = 0;
       tape.readFirst();
       // Each item takes a byte at the least.
       while (items < TAPE_ROOM) {

@@ -17,7 +17,6 @@ public final class RefusedTest {
     beyondFirst();
     missingBeforeBeyond();
     copyInItsOrder();
-    looks();
     Checks.finish("RefusedTest");
   }
 
@@ -166,23 +165,5 @@ public final class RefusedTest {
     Twins.refused(BUSY, Checks.KIND, "copy", 0, 0, 2, -1, 0);
     Twins.refused(BUSY, Checks.KIND, "copy", 2, 0, 0, 0, -1);
     Twins.refused(BUSY, Checks.KIND, "copy", 2, 0, 0, 0, 41);
-  }
-
-  /** What only looks changes nothing when it answers, either. */
-  private static void looks() {
-    Object[][] calls = {{"crier", 0}, {"listed", 0}, {"of", 0, 10}, {"tempted", 0, 0},
-        {"register", 0}, {"comers", 0}, {"now", 7}, {"ahead", 0, 2, 100}, {"gold", 100},
-        {"stands", 0, 0}, {"stands", 4, 1}, {"wants", 2, 0}, {"wants", 2, 4}, {"despair", 0, 99},
-        {"despair", 1, 30}, {"cryFor", 3, 60}, {"startFor", 60}, {"loudFor", 1, 60},
-        {"kindFor", 0, 60}, {"empty", 0}, {"cover", 7}, {"fits", 0, 0}, {"kinds", 0, 0},
-        {"odds", 0, 17, 0}, {"as", 3, 0}, {"judge", 0}, {"count", 6}, {"status", 0},
-        {"copy", 0, 5, 1, 3, 0}};
-    for (Object[] c : calls) {
-      int[] a = new int[c.length - 1];
-      for (int i = 0; i < a.length; i++) {
-        a[i] = (int) c[i + 1];
-      }
-      Twins.looked(BUSY, (String) c[0], a);
-    }
   }
 }
